@@ -593,7 +593,7 @@ public final class NumberPile {
             this.wide = wide;
             this.above = above;
             values = new int[wide + above.length];
-            told = values;
+            told = values; // so that it is never null; start() comes ahead of next()
             at = NONE;
         }
 
@@ -711,7 +711,6 @@ public final class NumberPile {
         }
 
         private void read(String text) {
-            Arrays.fill(now.figures, 0);
             int brick = 0;
             int figure = 0;
             for (int place = 1; place < text.length(); place++) {
@@ -866,20 +865,9 @@ public final class NumberPile {
         }
 
         int fitting() {
-            if (!isCounted) {
-                countFitting();
+            if (isCounted) {
+                return fitting;
             }
-            return fitting;
-        }
-
-        int fittingWith(int figure, int digit) {
-            if (!isCounted) {
-                countFitting();
-            }
-            return fittingWith[figure * DIGITS + digit];
-        }
-
-        private void countFitting() {
             fitting = 0;
             Arrays.fill(fittingWith, 0);
             rows.start(now.told);
@@ -890,6 +878,11 @@ public final class NumberPile {
                 }
             }
             isCounted = true;
+            return fitting;
+        }
+
+        int fittingWith(int figure, int digit) {
+            return fitting() == 0 ? 0 : fittingWith[figure * DIGITS + digit];
         }
 
         int fittingRow(int number) {
@@ -972,7 +965,7 @@ public final class NumberPile {
             }
             int best = NONE;
             int fewest = KINDS + 1;
-            for (int pair = 0; pair < PAIRS; pair++) {
+            for (int pair = 0; pair < PAIRS && fewest > 1; pair++) {
                 int worst = mostAlike(sorts, pair / DIGITS, pair % DIGITS);
                 if (worst < fewest) {
                     fewest = worst;

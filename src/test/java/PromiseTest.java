@@ -438,6 +438,8 @@ public final class PromiseTest {
         due("15: four weigh 8, 12, 6, 1", of("4;www,ww,w;1234").order(0), 3 * 8 + 4 * 12 + 2 * 6 + 1);
         due("15: the heaviest has the greatest", of("4;www,ww,w;1234").order(1), 3421);
         due("15: noughts alone", of("2;g;00").order(1), 0);
+        due("15: nines that make nought", of("4;ggg,gg,g;9999").order(0), 0);
+        due("15: nines alone", of("4;ggg,gg,g;9999").order(1), 9999);
         due("15: what -1", x.order(-1), OUTSIDE);
         due("15: what 2", x.order(2), OUTSIDE);
         due("15: no pile", new NumberPile().order(1), STATE);
@@ -544,6 +546,13 @@ public final class PromiseTest {
         y.change(2, 1);
         y.tell(2, 9);
         due("19: 09 or 90", y.look(), 0);
+        NumberPile z = of("3;ss,s;000");
+        z.tell(3, 0);
+        due("19: two are nought for sure, the third one tells all", z.look(), 2);
+        NumberPile great = of("4;www,ww,w;9999");
+        due("19: up to 243", great.look(), 9);
+        great.tell(9, 243);
+        due("19: all are known, none is told", great.look(), 0);
     }
 
     private static void odds() {
@@ -631,6 +640,14 @@ public final class PromiseTest {
         x.forget();
         x.see(2, 4, 8, 4);
         due("6: gap alone", x.brick(2, 5), 2);
+        x.forget();
+        x.see(2, 4, 3, 1);
+        due("6: gap or last", x.brick(2, 5), 18);
+        due("6: try of gap and last", x.brick(2, 6), 10);
+        x.forget();
+        x.see(2, 5, 5, 5);
+        due("6: more or last", x.brick(2, 5), 20);
+        due("6: try of more and last", x.brick(2, 6), 10);
     }
 
     private static void forget() {
@@ -654,6 +671,9 @@ public final class PromiseTest {
                     drawnAs(text, times, seed);
                 }
             }
+        }
+        for (int seed = 0; seed < 40; seed++) {
+            drawnAs("2;g;12", 1, seed); // some of these make nought
         }
         NumberPile x = of(THREE);
         due("23: times 0", x.drawn(0, 0, 0), OUTSIDE);
