@@ -405,6 +405,15 @@ public final class NumberPile {
         return Math.max(greater, 1);
     }
 
+    /** A ROW of FIGURES, read as one number. */
+    private static int asNumber(int[] values, int wide) {
+        int number = 0;
+        for (int figure = 0; figure < wide && figure < values.length; figure++) {
+            number = number * DIGITS + values[figure];
+        }
+        return number;
+    }
+
     /** How a BRICK is made of the two below it, by its KIND; this one is the plain one. */
     private static class Brick {
         int number() {
@@ -653,14 +662,6 @@ public final class NumberPile {
         private boolean isOtherThanTold(int brick) {
             return told[brick] != NONE && told[brick] != values[brick];
         }
-    }
-
-    private static int asNumber(int[] values, int wide) {
-        int number = 0;
-        for (int figure = 0; figure < wide && figure < values.length; figure++) {
-            number = number * DIGITS + values[figure];
-        }
-        return number;
     }
 
     /** A PILE with all that is done with it; one that is 0 wide stands for none. */
