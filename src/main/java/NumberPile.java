@@ -49,7 +49,7 @@ public final class NumberPile {
     public NumberPile() {
         kinds = new Brick[] {new Brick(), new Gap(), new More(), new Twice(), new Last()};
         page = new Page();
-        current = new Pile("", kinds);
+        current = new Pile(0, kinds);
     }
 
     // ---- the pile
@@ -79,7 +79,8 @@ public final class NumberPile {
         if (!page.isPile()) {
             return STATE;
         }
-        current = new Pile(page.text(), kinds);
+        current = new Pile(page.wide(), kinds);
+        current.read(page.text());
         page.clear();
         reads++;
         return current.size;
@@ -497,6 +498,11 @@ public final class NumberPile {
             return letters.toString();
         }
 
+        /** How WIDE a PILE that begins so is; 0 if none does. */
+        int wide() {
+            return form().isEmpty() ? 0 : letterAt(0) - '0';
+        }
+
         boolean isPile() {
             int length = letters.length();
             return length > 0 && length == form().length() && firstFault() == length;
@@ -581,10 +587,14 @@ public final class NumberPile {
         }
 
         void takeFrom(State other) {
-            System.arraycopy(other.above, 0, above, 0, above.length);
+            for (int place = 0; place < above.length && place < other.above.length; place++) {
+                above[place] = other.above[place];
+            }
+            for (int place = 0; place < seen.length && place < other.seen.length; place++) {
+                seen[place] = other.seen[place];
+            }
             System.arraycopy(other.figures, 0, figures, 0, figures.length);
             System.arraycopy(other.told, 0, told, 0, told.length);
-            System.arraycopy(other.seen, 0, seen, 0, seen.length);
             sights = other.sights;
             changes = other.changes;
         }
@@ -683,10 +693,9 @@ public final class NumberPile {
         private final int[] fittingWith;
         private boolean isCounted;
 
-        /** The text is a PILE, or empty. */
-        Pile(String text, Brick[] kinds) {
+        Pile(int wide, Brick[] kinds) {
             this.kinds = kinds;
-            wide = text.isEmpty() ? 0 : text.charAt(0) - '0';
+            this.wide = wide;
             size = wide * (wide + 1) / 2;
             leftBelow = new int[size];
             now = new State(wide, size);
@@ -696,8 +705,6 @@ public final class NumberPile {
             fittingWith = new int[wide * DIGITS];
             rows = new Rows(wide, now.above);
             setLeftBelow();
-            read(text);
-            build();
         }
 
         private void setLeftBelow() {
@@ -711,7 +718,8 @@ public final class NumberPile {
             }
         }
 
-        private void read(String text) {
+        /** The text is a PILE that is as WIDE as this one; only then the BRICKS above have KINDS. */
+        void read(String text) {
             int brick = 0;
             int figure = 0;
             for (int place = 1; place < text.length(); place++) {
@@ -725,6 +733,7 @@ public final class NumberPile {
                     figure++;
                 }
             }
+            build();
         }
 
         private void build() {
