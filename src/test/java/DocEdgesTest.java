@@ -12,8 +12,8 @@ public final class DocEdgesTest {
         SeenEdgesTest.class, AllEdgesTest.class, TermsEdgesTest.class};
     private static final Pattern OF_PROMISES =
         Pattern.compile("\\b(UNKNOWN|OUTSIDE|STATE|FULL|NONE)\\b|\\d+ to \\d+|at least|at most|too\\b|wrapping");
-    private static final Pattern OF_TERMS =
-        Pattern.compile("\\bnone\\b|\\d+ to \\d+|at most|too\\b|the least|rounded|rest by|keeps|of several|change nothing");
+    private static final Pattern OF_TERMS = Pattern.compile(
+        "\\bnone\\b|\\d+ to \\d+|at most|too\\b|the least|rounded|rest by|keeps|of several|change nothing");
     private static final Pattern OF_WHAT_IT_IS = Pattern.compile("\\d+ to \\d+|at most|down to one|as many digits");
 
     private static int wrong = 0;

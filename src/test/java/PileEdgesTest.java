@@ -272,6 +272,45 @@ public final class PileEdgesTest {
             .due(1, "forget").due(18, "brick", 3, 6);
     }
 
+    @Says(under = "Promise 6", words = "5 SORTS, as bits (0: a FIGURE)")
+    static void p06_sortsAndTry_byAllThatCanBeSeenAtOnce() {
+        for (int pair = 0; pair <= 99; pair++) {
+            for (int number = 0; number <= 30; number++) {
+                int sorts = 0;
+                for (int kind = 0; kind <= 4; kind++) {
+                    sorts |= made(kind, pair) == number ? 1 << kind : 0;
+                }
+                Run.of(Run.TWO).due(1, "see", 2, pair / 10, pair % 10, number).due(sorts, "brick", 2, 5)
+                    .due(firstThatTellsApart(sorts), "brick", 2, 6);
+            }
+        }
+    }
+
+    private static int made(int kind, int pair) {
+        int left = pair / 10;
+        int right = pair % 10;
+        int[] all = {left + right, Math.abs(left - right), Math.max(left, right), 2 * left + right,
+            (2 * left + right) % 10};
+        return all[kind];
+    }
+
+    /** 18 is told otherwise by all five: so one is left at worst, and the first two that do so are the ones. */
+    private static int firstThatTellsApart(int sorts) {
+        for (int pair = 0; pair <= 18 && sorts != 0; pair++) {
+            boolean alike = false;
+            for (int one = 0; one <= 4; one++) {
+                for (int other = 0; other < one; other++) {
+                    boolean both = (sorts >> one & 1) != 0 && (sorts >> other & 1) != 0;
+                    alike |= both && made(one, pair) == made(other, pair);
+                }
+            }
+            if (!alike) {
+                return pair;
+            }
+        }
+        return NONE;
+    }
+
     @Says(under = "Promise 6", words = "UNKNOWN; OUTSIDE.")
     static void p06_unknown_bricksBeyondTheLeastAndTheGreatest() {
         for (int i = 0; i < PILES.length; i++) {

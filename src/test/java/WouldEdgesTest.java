@@ -234,6 +234,20 @@ public final class WouldEdgesTest {
         Run.of("4;www,ww,w;0000").due(9, "look");
     }
 
+    @Says(under = "Promise 19", words = "LOOK; NONE.")
+    static void p19_look_bricksThatAreNoughtForSureTellNothing() {
+        Run.of("3;gs,s;000").due(100, "tell", 0, 5).due(10, "tell", 1, 5).due(2, "look"); // 3 is nought ten times
+    }
+
+    @Says(under = "Promise 19", words = "LOOK; NONE.")
+    static void p19_look_aTopThatIsTheGreatestForSureIsLikeTheOthers() {
+        Run run = Run.of("4;www,ww,w;0000");
+        for (int figure = 0; figure < 4; figure++) {
+            run.ask("tell", figure, 9);
+        }
+        run.due(1, "left").due(4, "look");
+    }
+
     @Says(under = "Promise 19", words = "STATE: no PILE, or look() was done 20 times.")
     static void p19_state_noPile() {
         Run.page("2;w;00").refused(STATE, "look").due(3, "pile").due(2, "look").due(1, "count", 11);
@@ -270,6 +284,14 @@ public final class WouldEdgesTest {
         allTold().due(1, "odds", 0, 3, 0).due(1, "odds", 0, 3, 1).due(0, "odds", 0, 4, 0).due(1, "odds", 0, 4, 1);
         Run.of(Run.TWO).due(8, "tell", 2, 11).due(0, "odds", 0, 1, 0).due(1, "odds", 0, 1, 1)
             .due(1, "odds", 0, 2, 0).due(8, "odds", 0, 2, 1);
+    }
+
+    @Says(under = "Promise 20", words = "ODDS: what = 0 above, 1 below.")
+    static void p20_odds_inLowestTerms() {
+        // the middle one counts twice: 003, 102, 201, 300, 011, 110
+        Run.of("3;ss,s;000").due(6, "tell", 5, 3).due(2, "odds", 1, 0, 0).due(3, "odds", 1, 0, 1)
+            .due(1, "odds", 1, 1, 0).due(3, "odds", 1, 1, 1).due(1, "odds", 0, 0, 0).due(3, "odds", 0, 0, 1)
+            .due(1, "odds", 0, 2, 0).due(6, "odds", 0, 2, 1);
     }
 
     @Says(under = "Promise 20", words = "ODDS: what = 0 above, 1 below.")
