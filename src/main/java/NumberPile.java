@@ -20,8 +20,6 @@ public final class NumberPile {
     private static final int DIGITS = 10;
     private static final int PAIRS = 100;
     private static final int ROWS = 10000;
-    /** Four nines, all bricks twice: 27, 81, 243. */
-    private static final int GREATEST = 243;
     /** Far above the 12221 digits and turns that all rows of four take. */
     private static final int MOST_STEPS = 100000;
 
@@ -91,7 +89,7 @@ public final class NumberPile {
             return UNKNOWN;
         }
         switch (what) {
-            case 0: return isFigure(brick) ? NONE : current.kindOf(brick).number();
+            case 0: return isFigure(brick) ? NONE : current.kindOf(brick);
             case 1: return current.values[brick];
             case 2: return current.leftBelow[brick];
             case 3: return isFigure(brick) ? NONE : current.leftBelow[brick] + 1;
@@ -109,7 +107,7 @@ public final class NumberPile {
         if (!isWithin(kind, 0, KINDS - 1)) {
             return OUTSIDE;
         }
-        if (isFigure(brick) || !isOfKind(current.kindOf(brick), kind)) {
+        if (isFigure(brick) || !isOfKind(kinds[current.kindOf(brick)], kind)) {
             return NONE;
         }
         return brick;
@@ -122,7 +120,7 @@ public final class NumberPile {
         if (!isDigit(left) || !isDigit(right)) {
             return OUTSIDE;
         }
-        return current.kindOf(brick).made(left, right);
+        return kinds[current.kindOf(brick)].made(left, right);
     }
 
     // ---- what is done
@@ -162,7 +160,7 @@ public final class NumberPile {
         if (!isWithin(kind, 0, KINDS - 1)) {
             return OUTSIDE;
         }
-        int was = current.kindOf(brick).number();
+        int was = current.kindOf(brick);
         current.setKind(brick, kind);
         return was;
     }
@@ -228,7 +226,10 @@ public final class NumberPile {
         if (number < 0) {
             return OUTSIDE;
         }
-        return hasPile() ? current.fittingRow(number) : STATE;
+        if (!hasPile()) {
+            return STATE;
+        }
+        return number < current.fitting() ? current.fittingRow(number) : NONE;
     }
 
     public int look() {
@@ -247,7 +248,7 @@ public final class NumberPile {
             return OUTSIDE;
         }
         int all = current.fitting();
-        int some = current.fittingWith(figure, digit);
+        int some = current.fittingWith[figure * DIGITS + digit];
         if (what == 0) {
             return some / greatestDivisor(all, some);
         }
@@ -415,23 +416,18 @@ public final class NumberPile {
         return number;
     }
 
+    private static void copy(int[] from, int[] to) {
+        System.arraycopy(from, 0, to, 0, Math.min(from.length, to.length));
+    }
+
     /** How a BRICK is made of the two below it, by its KIND; this one is the plain one. */
     private static class Brick {
-        int number() {
-            return 0;
-        }
-
         int made(int left, int right) {
             return left + right;
         }
     }
 
     private static final class Gap extends Brick {
-        @Override
-        int number() {
-            return GAP;
-        }
-
         @Override
         int made(int left, int right) {
             return Math.abs(left - right);
@@ -440,11 +436,6 @@ public final class NumberPile {
 
     private static final class More extends Brick {
         @Override
-        int number() {
-            return MORE;
-        }
-
-        @Override
         int made(int left, int right) {
             return Math.max(left, right);
         }
@@ -452,22 +443,12 @@ public final class NumberPile {
 
     private static class Twice extends Brick {
         @Override
-        int number() {
-            return TWICE;
-        }
-
-        @Override
         int made(int left, int right) {
             return 2 * left + right;
         }
     }
 
     private static final class Last extends Twice {
-        @Override
-        int number() {
-            return LAST;
-        }
-
         @Override
         int made(int left, int right) {
             return super.made(left, right) % DIGITS;
@@ -564,7 +545,8 @@ public final class NumberPile {
 
     /** What an IMAGE keeps of a PILE. */
     private static final class State {
-        private final Brick[] above;
+        /** KINDS by number, so that they are never missing: a plain one is 0. */
+        private final int[] above;
         private final int[] figures;
         private final int[] told;
         private final Sight[] seen;
@@ -572,7 +554,7 @@ public final class NumberPile {
         private int changes;
 
         State(int wide, int size) {
-            above = new Brick[size - wide];
+            above = new int[size - wide];
             figures = new int[wide];
             told = new int[size];
             Arrays.fill(told, NONE);
@@ -587,14 +569,12 @@ public final class NumberPile {
         }
 
         void takeFrom(State other) {
-            for (int place = 0; place < above.length && place < other.above.length; place++) {
-                above[place] = other.above[place];
-            }
             for (int place = 0; place < seen.length && place < other.seen.length; place++) {
                 seen[place] = other.seen[place];
             }
-            System.arraycopy(other.figures, 0, figures, 0, figures.length);
-            System.arraycopy(other.told, 0, told, 0, told.length);
+            copy(other.above, above);
+            copy(other.figures, figures);
+            copy(other.told, told);
             sights = other.sights;
             changes = other.changes;
         }
@@ -603,13 +583,15 @@ public final class NumberPile {
     /** Goes by numbers through the ROWS of FIGURES by which all that is told is so. */
     private static final class Rows {
         private final int wide;
-        private final Brick[] above;
+        private final Brick[] kinds;
+        private final int[] above;
         private final int[] values;
         private int[] told;
         private int at;
 
-        Rows(int wide, Brick[] above) {
+        Rows(int wide, Brick[] kinds, int[] above) {
             this.wide = wide;
+            this.kinds = kinds;
             this.above = above;
             values = new int[wide + above.length];
             told = values; // so that it is never null; start() comes ahead of next()
@@ -660,7 +642,7 @@ public final class NumberPile {
             int below = at;
             for (int row = 0; row < at; row++) {
                 int brick = below + wide - row - 1;
-                values[brick] = above[brick - wide].made(values[below - 1], values[below]);
+                values[brick] = kinds[above[brick - wide]].made(values[below - 1], values[below]);
                 if (isOtherThanTold(brick)) {
                     return false;
                 }
@@ -671,6 +653,50 @@ public final class NumberPile {
 
         private boolean isOtherThanTold(int brick) {
             return told[brick] != NONE && told[brick] != values[brick];
+        }
+    }
+
+    /** How often each BRICK is how great, in ROWS that FIT. */
+    private static final class Tally {
+        /** Where the counts of each BRICK begin, and where the last ones end. */
+        private final int[] begin;
+        private final int[] often;
+
+        /** A TWICE of two like ones is three times as great as they are; no KIND makes more. */
+        Tally(int wide, int size) {
+            begin = new int[size + 1];
+            int brick = 0;
+            int greatest = DIGITS - 1;
+            for (int many = wide; many > 0; many--) {
+                for (int place = 0; place < many && brick < size; place++) {
+                    begin[brick + 1] = begin[brick] + greatest + 1;
+                    brick++;
+                }
+                greatest *= 3;
+            }
+            often = new int[begin[size]];
+        }
+
+        void clear() {
+            Arrays.fill(often, 0);
+        }
+
+        void add(int[] values) {
+            for (int brick = 0; brick < begin.length - 1 && brick < values.length; brick++) {
+                int place = begin[brick] + values[brick];
+                if (isWithin(place, begin[brick], begin[brick + 1] - 1)) {
+                    often[place]++;
+                }
+            }
+        }
+
+        /** The most ROWS that make this BRICK alike. */
+        int worst(int brick) {
+            int worst = 0;
+            for (int place = begin[brick]; place < begin[brick + 1]; place++) {
+                worst = Math.max(worst, often[place]);
+            }
+            return worst;
         }
     }
 
@@ -688,6 +714,9 @@ public final class NumberPile {
         /** How great each would be by FIGURES that are tried. */
         private final int[] guess;
         private final Rows rows;
+        private final Tally tally;
+        /** What NEED takes as told: of the TOP alone. */
+        private final int[] wish;
         /** Of what FITS: how many, and how many with each digit at each FIGURE; true while isCounted. */
         private int fitting;
         private final int[] fittingWith;
@@ -703,7 +732,10 @@ public final class NumberPile {
             values = new int[size];
             guess = new int[size];
             fittingWith = new int[wide * DIGITS];
-            rows = new Rows(wide, now.above);
+            rows = new Rows(wide, kinds, now.above);
+            tally = new Tally(wide, size);
+            wish = new int[size];
+            Arrays.fill(wish, NONE);
             setLeftBelow();
         }
 
@@ -718,7 +750,7 @@ public final class NumberPile {
             }
         }
 
-        /** The text is a PILE that is as WIDE as this one; only then the BRICKS above have KINDS. */
+        /** The text is a PILE that is as WIDE as this one. */
         void read(String text) {
             int brick = 0;
             int figure = 0;
@@ -726,7 +758,7 @@ public final class NumberPile {
                 int kind = LETTERS.indexOf(text.charAt(place));
                 int digit = text.charAt(place) - '0';
                 if (kind >= 0 && kind < kinds.length && brick < now.above.length) {
-                    now.above[brick] = kinds[kind];
+                    now.above[brick] = kind;
                     brick++;
                 } else if (isDigit(digit) && figure < wide) {
                     now.figures[figure] = digit;
@@ -737,19 +769,19 @@ public final class NumberPile {
         }
 
         private void build() {
-            System.arraycopy(now.figures, 0, values, 0, wide);
+            copy(now.figures, values);
             raise(values);
         }
 
         private void raise(int[] pile) {
             for (int brick = wide; brick < size; brick++) {
                 int left = leftBelow[brick];
-                pile[brick] = now.above[brick - wide].made(pile[left], pile[left + 1]);
+                pile[brick] = kinds[now.above[brick - wide]].made(pile[left], pile[left + 1]);
             }
         }
 
         /** For BRICKS above the lowest row alone. */
-        Brick kindOf(int brick) {
+        int kindOf(int brick) {
             return now.above[brick - wide];
         }
 
@@ -792,7 +824,7 @@ public final class NumberPile {
         }
 
         void setKind(int brick, int kind) {
-            now.above[brick - wide] = kinds[kind];
+            now.above[brick - wide] = kind;
             isCounted = false;
             build();
         }
@@ -817,7 +849,7 @@ public final class NumberPile {
             if (now.figures[figure] == DIGITS - 1) {
                 return NONE;
             }
-            System.arraycopy(now.figures, 0, guess, 0, wide);
+            copy(now.figures, guess);
             guess[figure]++;
             raise(guess);
             return 1000 + guessedTop() - top();
@@ -852,8 +884,6 @@ public final class NumberPile {
 
         /** How many FIGURES are to be changed, times ROWS, and the FIGURES then; or NONE. */
         int nearestWithTop(int number) {
-            int[] wish = new int[size];
-            Arrays.fill(wish, NONE);
             if (size > 0) {
                 wish[size - 1] = number;
             }
@@ -891,14 +921,8 @@ public final class NumberPile {
             return fitting;
         }
 
-        int fittingWith(int figure, int digit) {
-            return fitting() == 0 ? 0 : fittingWith[figure * DIGITS + digit];
-        }
-
+        /** For numbers below fitting(). */
         int fittingRow(int number) {
-            if (number >= fitting()) {
-                return NONE;
-            }
             rows.start(now.told);
             for (int row = 0; row <= number && row < ROWS; row++) {
                 if (!rows.next()) {
@@ -912,11 +936,11 @@ public final class NumberPile {
             if (fitting() == 0) {
                 return NONE;
             }
-            int[][] often = tallyFitting();
+            tallyFitting();
             int best = NONE;
             int fewest = ROWS + 1;
             for (int brick = 0; brick < size; brick++) {
-                int worst = greatest(often[brick]);
+                int worst = tally.worst(brick);
                 if (now.told[brick] == NONE && worst < fewest) {
                     fewest = worst;
                     best = brick;
@@ -925,27 +949,12 @@ public final class NumberPile {
             return best;
         }
 
-        /** How many ROWS that FIT make each BRICK how great. */
-        private int[][] tallyFitting() {
-            int[][] often = new int[size][GREATEST + 1];
+        private void tallyFitting() {
+            tally.clear();
             rows.start(now.told);
             for (int row = 0; row < ROWS && rows.next(); row++) {
-                for (int brick = 0; brick < size; brick++) {
-                    int value = rows.values[brick];
-                    if (isWithin(value, 0, GREATEST)) {
-                        often[brick][value]++;
-                    }
-                }
+                tally.add(rows.values);
             }
-            return often;
-        }
-
-        private static int greatest(int[] numbers) {
-            int greatest = 0;
-            for (int number : numbers) {
-                greatest = Math.max(greatest, number);
-            }
-            return greatest;
         }
 
         int sorts(int brick) {
