@@ -95,7 +95,7 @@ public final class NumberPile {
             case 3: return isFigure(brick) ? NONE : current.leftBelow[brick] + 1;
             case 4: return current.now.told[brick];
             case 5: return isFigure(brick) ? 0 : current.sorts(brick);
-            case 6: return isFigure(brick) ? NONE : current.nextTry(brick);
+            case 6: return isFigure(brick) ? NONE : current.nextTry(current.sorts(brick));
             default: return OUTSIDE;
         }
     }
@@ -977,8 +977,7 @@ public final class NumberPile {
             return true;
         }
 
-        int nextTry(int brick) {
-            int sorts = sorts(brick);
+        int nextTry(int sorts) {
             if (sorts == 0) {
                 return NONE;
             }

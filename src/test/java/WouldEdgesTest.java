@@ -248,6 +248,39 @@ public final class WouldEdgesTest {
         run.due(1, "left").due(4, "look");
     }
 
+    /** All others are known by now: where one that is as great as can be were not counted, it would be looked at. */
+    @Says(under = "Promise 19", words = "LOOK; NONE.")
+    static void p19_look_theGreatestOfEachRowIsLikeTheOthers() {
+        Run.of("3;sg,s;000").due(100, "tell", 2, 0).due(10, "tell", 4, 9).due(1, "tell", 3, 17)
+            .due(890, "fits", 0).due(0, "look"); // figure 1 is 9
+        Run.of("3;ww,w;000").due(100, "tell", 0, 9).due(10, "tell", 1, 9).due(2, "look") // 3 is 27 ten times
+            .due(1, "tell", 4, 27).due(2, "look").due(1, "tell", 2, 9).due(3, "look").due(1, "tell", 3, 27)
+            .due(5, "look");
+        Run.of("4;www,ww,w;0000").due(1000, "tell", 0, 9).due(100, "tell", 1, 9).due(10, "tell", 2, 9)
+            .due(1, "tell", 6, 27).due(3, "look");
+    }
+
+    @Says(under = "Promise 19", words = "LOOK; NONE.")
+    static void p19_look_thoseBeforeMakeNoDifference() {
+        for (String text : PILES) {
+            Run often = Run.of(text);
+            int size = (int) often.ask("count", 1);
+            for (int told = 0; told <= size; told++) {
+                Run once = Run.of(text);
+                for (int brick = 0; brick < size; brick++) {
+                    if (often.ask("brick", brick, 4) != NONE) {
+                        once.ask("tell", brick, (int) often.ask("brick", brick, 4));
+                    }
+                }
+                int next = (int) once.ask("look");
+                often.due(next, "look");
+                often.ask("tell", next, (int) often.ask("brick", Math.max(next, 0), 1));
+            }
+            often.due(NONE, "look").due(size, "count", 4);
+        }
+        Run.of("2;w;00").due(2, "look").due(5, "tell", 2, 9).due(0, "look").due(100, "hush", 2).due(2, "look");
+    }
+
     @Says(under = "Promise 19", words = "STATE: no PILE, or look() was done 20 times.")
     static void p19_state_noPile() {
         Run.page("2;w;00").refused(STATE, "look").due(3, "pile").due(2, "look").due(1, "count", 11);
